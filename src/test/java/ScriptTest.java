@@ -1,0 +1,180 @@
+/** Promises 29 and 30: runScript, simulate. */
+public final class ScriptTest {
+    private static final int NONE = DanceFloors.NONE;
+
+    public static void main(String[] args) {
+        runsSingleCommands();
+        refusesWrongGroups();
+        runsInOrderOnACopy();
+        scriptThrows();
+        simulatesTurns();
+        simulateThrows();
+        Checks.end();
+    }
+
+    private static void script(DanceFloors x, int n, long script, int due) {
+        String before = Studios.look(x);
+        Checks.due("runScript(" + n + ", " + script + ")", due, () -> x.runScript(n, script));
+        Checks.same("what there is behind the script " + script, before, Studios.look(x));
+    }
+
+    /** Dancers 0 and 1 have a seat in class 0, and 8 uses left; 2 classes were held. */
+    private static DanceFloors danced() {
+        DanceFloors x = Studios.small();
+        x.enter(0, 0);
+        x.enter(1, 0);
+        x.weeks(2);
+        return x;
+    }
+
+    private static void runsSingleCommands() {
+        DanceFloors x = danced();
+        script(x, 1, 12000, NONE);
+        script(x, 1, 10000, 0);
+        script(x, 1, 13000, 0);
+        script(x, 1, 12200, 0);
+        script(x, 1, 21000, NONE);
+        script(x, 1, 22000, 0);
+        script(x, 1, 23000, 0);
+        script(x, 1, 20200, 0);
+        script(x, 1, 30001, NONE);
+        script(x, 1, 30009, NONE);
+        script(x, 1, 30000, 0);
+        script(x, 1, 42000, NONE);
+        script(x, 1, 43000, 0);
+        script(x, 1, 51000, NONE);
+        script(x, 1, 52000, 0);
+        script(x, 1, 60000, NONE);
+        script(x, 1, 60001, NONE);
+        script(x, 1, 60002, 0);
+        script(x, 1, 63000, 0);
+        script(x, 1, 70008, NONE);
+        script(x, 1, 70009, 0);
+        script(x, 1, 72010, NONE);
+        script(x, 1, 72011, 0);
+        script(x, 1, 73000, 0);
+        script(x, 1, 80002, NONE);
+        script(x, 1, 80003, 0);
+        script(x, 1, 82000, 0);
+        script(x, 1, 90002, NONE);
+        script(x, 1, 90003, 0);
+    }
+
+    private static void refusesWrongGroups() {
+        DanceFloors x = danced();
+        long[] wrong = {0, 1, 9999, 12001, 12010, 21001, 21010, 30011, 30101, 31001, 42001, 42010, 42100,
+            51001, 51010, 51100, 60010, 60100, 60011, 70100, 80100, 90100, 91000, 99999};
+        for (long group : wrong) {
+            script(x, 1, group, 0);
+        }
+        x.pass(2);
+        for (int i = 0; i < 7; i++) {
+            x.pass(2);
+        }
+        x.pass(0);
+        script(x, 1, 42000, 0);
+        script(x, 1, 72090, NONE);
+    }
+
+    private static void runsInOrderOnACopy() {
+        DanceFloors x = danced();
+        script(x, 3, 21000_21000_12000L, 1);
+        script(x, 3, 21000_11000_80002L, NONE);
+        script(x, 3, 12000_30001_90003L, NONE);
+        script(x, 3, 12000_30001_90004L, 2);
+        script(x, 3, 30004_70004_70005L, 2);
+        script(x, 2, 51000_51000L, 1);
+        script(x, 2, 51000_50000L, NONE);
+        script(x, 2, 42000_72020L, NONE);
+        script(x, 2, 12000L, 0);
+        script(x, 3, 12000L, 0);
+        script(x, 3, 50000_90002_80001L, 2);
+        Checks.due("undo(): scripts are no actions", 2, x::undo);
+    }
+
+    private static void scriptThrows() {
+        DanceFloors x = danced();
+        Checks.dueArgument(x, "runScript(0, 0)", () -> x.runScript(0, 0));
+        Checks.dueArgument(x, "runScript(4, 0)", () -> x.runScript(4, 0));
+        Checks.dueArgument(x, "runScript(-1, 0)", () -> x.runScript(-1, 0));
+        Checks.dueArgument(x, "runScript(1, -1)", () -> x.runScript(1, -1));
+        Checks.dueArgument(x, "runScript(1, lowest)", () -> x.runScript(1, Long.MIN_VALUE));
+        Checks.dueArgument(x, "runScript(1, 100000)", () -> x.runScript(1, 100000L));
+        Checks.dueArgument(x, "runScript(2, 10000000000)", () -> x.runScript(2, 10000000000L));
+        Checks.dueArgument(x, "runScript(3, 1000000000000000)", () -> x.runScript(3, 1000000000000000L));
+        Checks.dueArgument(x, "runScript(3, highest)", () -> x.runScript(3, Long.MAX_VALUE));
+        script(x, 2, 99999_99999L, 0);
+        script(x, 3, 99999_99999_99999L, 0);
+    }
+
+    private static void simulatesTurns() {
+        for (int m = 1; m <= 100; m += 3) {
+            for (long seed = -40; seed < 40; seed++) {
+                simulates("S", seed * 7919 + m, m);
+            }
+        }
+        for (int i = 0; i < 300; i++) {
+            simulates("Sf924030f540020f330025t155t155t155ddddddddp00p01p02p03p04p05p06p07c310000c321010c310102", i, 100);
+        }
+        simulates("S", Long.MIN_VALUE, 100);
+        simulates("S", Long.MAX_VALUE, 100);
+        simulates("S", 0, 1);
+    }
+
+    private static void simulates(String text, long seed, int m) {
+        DanceFloors x = Studios.loaded(text);
+        String before = Studios.look(x);
+        long due = played(Studios.loaded(text), seed, m);
+        Checks.due("simulate(" + seed + ", " + m + ") of " + text, due, () -> x.simulate(seed, m));
+        Checks.due("simulate again", due, () -> x.simulate(seed, m));
+        Checks.same("what there is behind simulate", before, Studios.look(x));
+        Checks.dueState(x, "simulate is no action", x::undo);
+    }
+
+    /** Plays the turns with the public methods of an object that is not used otherwise. */
+    private static long played(DanceFloors x, long seed, int m) {
+        long state = seed;
+        long before = x.uses(0);
+        for (int turn = 0; turn < m; turn++) {
+            state = state * 6364136223846793005L + 1442695040888963407L;
+            int r = (int) (state >>> 33);
+            Checks.answerOf(() -> turnOf(x, r % 16, r / 16));
+        }
+        return 10000 * (x.uses(0) - before) + 100 * x.about(2) + x.about(5) % 100;
+    }
+
+    private static int turnOf(DanceFloors x, int kind, int q) {
+        if (kind == 0) {
+            return x.floor(1 + q % 9, (q / 16) % 5, (q / 128) % 61, 1 + (q / 8192) % 30);
+        }
+        if (kind == 1) {
+            return x.teacher(q % 16, 1 + (q / 16) % 5);
+        }
+        if (kind < 6) {
+            return x.set(q % 4, 1 + (q / 4) % 5, (q / 32) % 4, (q / 128) % 5, (q / 1024) % 6, (q / 8192) % 6);
+        }
+        if (kind == 6) {
+            return x.dancer();
+        }
+        if (kind < 9) {
+            return x.pass(q % 12);
+        }
+        if (kind < 13) {
+            return x.enter(q % 12, (q / 16) % 10);
+        }
+        if (kind > 13) {
+            return x.weeks(1 + q % 2);
+        }
+        if ((q / 256) % 4 == 0) {
+            return x.leave(q % 12, (q / 16) % 10);
+        }
+        return (q / 1024) % 4 == 0 ? x.drop(q % 10) : 0;
+    }
+
+    private static void simulateThrows() {
+        DanceFloors x = danced();
+        Checks.dueArgument(x, "simulate(1, 0)", () -> x.simulate(1, 0));
+        Checks.dueArgument(x, "simulate(1, 101)", () -> x.simulate(1, 101));
+        Checks.dueArgument(x, "simulate(1, -1)", () -> x.simulate(1, -1));
+    }
+}
