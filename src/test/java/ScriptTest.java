@@ -124,51 +124,16 @@ public final class ScriptTest {
     private static void simulates(String text, long seed, int m) {
         DanceFloors x = Studios.loaded(text);
         String before = Studios.look(x);
-        long due = played(Studios.loaded(text), seed, m);
+        Model model = new Model();
+        for (int i = 0; i < text.length(); i++) {
+            model.append(text.charAt(i));
+        }
+        model.load();
+        long due = model.simulate(seed, m);
         Checks.due("simulate(" + seed + ", " + m + ") of " + text, due, () -> x.simulate(seed, m));
         Checks.due("simulate again", due, () -> x.simulate(seed, m));
         Checks.same("what there is behind simulate", before, Studios.look(x));
         Checks.dueState(x, "simulate is no action", x::undo);
-    }
-
-    /** Plays the turns with the public methods of an object that is not used otherwise. */
-    private static long played(DanceFloors x, long seed, int m) {
-        long state = seed;
-        long before = x.uses(0);
-        for (int turn = 0; turn < m; turn++) {
-            state = state * 6364136223846793005L + 1442695040888963407L;
-            int r = (int) (state >>> 33);
-            Checks.answerOf(() -> turnOf(x, r % 16, r / 16));
-        }
-        return 10000 * (x.uses(0) - before) + 100 * x.about(2) + x.about(5) % 100;
-    }
-
-    private static int turnOf(DanceFloors x, int kind, int q) {
-        if (kind == 0) {
-            return x.floor(1 + q % 9, (q / 16) % 5, (q / 128) % 61, 1 + (q / 8192) % 30);
-        }
-        if (kind == 1) {
-            return x.teacher(q % 16, 1 + (q / 16) % 5);
-        }
-        if (kind < 6) {
-            return x.set(q % 4, 1 + (q / 4) % 5, (q / 32) % 4, (q / 128) % 5, (q / 1024) % 6, (q / 8192) % 6);
-        }
-        if (kind == 6) {
-            return x.dancer();
-        }
-        if (kind < 9) {
-            return x.pass(q % 12);
-        }
-        if (kind < 13) {
-            return x.enter(q % 12, (q / 16) % 10);
-        }
-        if (kind > 13) {
-            return x.weeks(1 + q % 2);
-        }
-        if ((q / 256) % 4 == 0) {
-            return x.leave(q % 12, (q / 16) % 10);
-        }
-        return (q / 1024) % 4 == 0 ? x.drop(q % 10) : 0;
     }
 
     private static void simulateThrows() {

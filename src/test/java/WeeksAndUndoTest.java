@@ -137,7 +137,7 @@ public final class WeeksAndUndoTest {
         Checks.Call[] actions = {
             () -> x.floor(1, 0, 0, 1), () -> x.teacher(0, 1), () -> x.set(3, 1, 0, 0, 3, 3), () -> x.dancer(),
             () -> x.pass(0), () -> x.enter(0, 0), () -> x.enter(1, 0), () -> x.weeks(3), () -> x.leave(0, 0),
-            () -> x.drop(0), () -> x.tune(1, 5), () -> x.enter(0, 9 - 9 + 1), () -> x.set(3, 1, 0, 0, 3, 3),
+            () -> x.drop(0), () -> x.tune(1, 5), () -> x.enter(0, 0), () -> x.set(3, 1, 0, 0, 3, 3),
             () -> x.tune(0, 2)};
         String[] before = new String[actions.length];
         for (int i = 0; i < actions.length; i++) {
