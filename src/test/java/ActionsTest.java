@@ -157,8 +157,17 @@ public final class ActionsTest {
         Checks.due("a new class has no weeks", 0, () -> x.classOf(2, 8));
         Checks.due("drop(2)", 0, () -> x.drop(2));
         Checks.due("drop(1)", 0, () -> x.drop(1));
-        Checks.due("drop(0)", 1, () -> x.drop(0));
+        dropsTheOnlyClass();
+    }
+
+    private static void dropsTheOnlyClass() {
+        DanceFloors x = Studios.loaded("Sf100009t085ddp00p01c310000e000e010w3");
+        Checks.due("drop(0)", 2, () -> x.drop(0));
         Checks.dueIndex(x, "drop(0) of none", () -> x.drop(0));
+        x.set(3, 1, 0, 0, 0, 0);
+        Checks.due("a new class has no seats", 0, () -> x.classOf(0, 7));
+        Checks.due("a new class has no weeks", 0, () -> x.classOf(0, 8));
+        Checks.due("a new class has no uses", 0, () -> x.classOf(0, 9));
     }
 
     private static void addsDancers() {

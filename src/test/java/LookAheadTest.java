@@ -86,6 +86,8 @@ public final class LookAheadTest {
         Checks.due("floor 0 is in use", 3, () -> x.bestFloor(3, 1, 0, 0, 0));
         Checks.due("teacher 1 is in use", -1, () -> x.bestFloor(3, 1, 1, 0, 0));
         Checks.due("at another hour", 0, () -> x.bestFloor(3, 1, 1, 0, 1));
+        DanceFloors y = Studios.loaded("Sf100001t085");
+        Checks.due("a floor of one place", 0, () -> y.bestFloor(3, 1, 0, 0, 0));
         Checks.dueIndex(x, "bestFloor: teacher 2", () -> x.bestFloor(9, 9, 2, 9, 9));
         Checks.dueIndex(x, "bestFloor: teacher -1", () -> x.bestFloor(3, 1, -1, 0, 0));
     }

@@ -62,7 +62,7 @@ public final class NumbersTest {
 
     private static void tellsOfTeachers() {
         DanceFloors x = Studios.small();
-        x.set(3, 1, 0, 0, 0, 5);
+        x.set(3, 1, 0, 0, 4, 4);
         x.set(3, 1, 0, 0, 4, 5);
         long[][] due = {{15, 5, 3, 2}, {8, 3, 1, 1}};
         for (int t = 0; t < due.length; t++) {

@@ -116,6 +116,7 @@ public final class ScriptTest {
         for (int i = 0; i < 300; i++) {
             simulates("Sf924030f540020f330025t155t155t155ddddddddp00p01p02p03p04p05p06p07c310000c321010c310102", i, 100);
         }
+        simulatesManySeats();
         simulates("S", Long.MIN_VALUE, 100);
         simulates("S", Long.MAX_VALUE, 100);
         simulates("S", 0, 1);
@@ -134,6 +135,28 @@ public final class ScriptTest {
         Checks.due("simulate again", due, () -> x.simulate(seed, m));
         Checks.same("what there is behind simulate", before, Studios.look(x));
         Checks.dueState(x, "simulate is no action", x::undo);
+    }
+
+    /** Ten classes at ten hours, each with all twelve dancers: 120 seats, of which simulate tells 20. */
+    private static void simulatesManySeats() {
+        DanceFloors x = Studios.loaded("Sf100030t085dddddddddddd");
+        for (int k = 0; k < 10; k++) {
+            x.set(3, 1, 0, 0, k / 6, k % 6);
+            for (int d = 0; d < 12; d++) {
+                x.enter(d, k);
+            }
+        }
+        Checks.due("seats", 120, () -> x.about(5));
+        long seed = 0;
+        while (kindOfFirstTurn(seed) != 0) {
+            seed++;
+        }
+        long found = seed;
+        Checks.due("simulate() of a turn that adds a floor", 1020, () -> x.simulate(found, 1));
+    }
+
+    private static int kindOfFirstTurn(long seed) {
+        return (int) (seed * 6364136223846793005L + 1442695040888963407L >>> 33) % 16;
     }
 
     private static void simulateThrows() {

@@ -7,6 +7,7 @@ public final class TextTest {
         allowsWholeStudios();
         findsNumbersOutOfRange();
         loadsAStudio();
+        doesEachCommand();
         leavesCommandsOut();
         loadForgetsAll();
         loadOfNoStudioChangesNothing();
@@ -88,6 +89,11 @@ public final class TextTest {
 
     private static void findsNumbersOutOfRange() {
         error("Sf0", 2);
+        error("Sf:", 2);
+        error("Sf1:", 3);
+        error("Sf10:", 4);
+        error("Sf100:", 5);
+        error("Sf10000:", 7);
         error("Sf15", 3);
         error("Sf107", 4);
         error("Sf1061", 5);
@@ -106,6 +112,8 @@ public final class TextTest {
         error("Sc01006", 6);
         error("Sc010006", 7);
         error("Sp2", 2);
+        error("Sp0:", 3);
+        error("Sp1/", 3);
         error("Sp12", 3);
         error("Se12", 3);
         error("Se11:", 4);
@@ -158,6 +166,18 @@ public final class TextTest {
         Checks.due("clearText() behind load()", text.length(), x::clearText);
     }
 
+    private static void doesEachCommand() {
+        DanceFloors x = Studios.loaded("Sf100009t085dddc310000c310001c310002e000e011e021p02p02x0");
+        Checks.due("classes behind x0", 2, () -> x.about(2));
+        Checks.due("seats behind x0", 2, () -> x.classOf(0, 7));
+        Checks.due("left of dancer 2 behind p02p02", 20, () -> x.dancerOf(2, 2));
+        Studios.type(x, "Sf100009t085dddc310000c310001c310002e001e021l021");
+        Checks.due("load()", 0, x::load);
+        Checks.due("seats of dancer 0 behind l021", 1, () -> x.dancerOf(0, 5));
+        Checks.due("seats of dancer 2 behind l021", 0, () -> x.dancerOf(2, 5));
+        Checks.due("seats in class 1 behind l021", 1, () -> x.classOf(1, 7));
+    }
+
     private static void refusalsOfTextCountNowhere() {
         DanceFloors x = Studios.loaded("Sf100001t151dc310000c310000e000e000");
         Checks.due("classes", 1, () -> x.about(2));
@@ -167,12 +187,13 @@ public final class TextTest {
 
     private static void loadForgetsAll() {
         DanceFloors x = Studios.small();
-        x.tune(0, 5);
-        x.tune(1, 50);
         x.enter(0, 0);
         x.enter(0, 0);
+        x.enter(1, 0);
         x.weeks(2);
         x.drop(0);
+        x.tune(0, 5);
+        x.tune(1, 50);
         x.save(0);
         x.save(1);
         Studios.type(x, "Sd");
