@@ -91,12 +91,15 @@ public final class DanceFloors {
 
     public int load() throws IllegalStateException {
         requireState(text.findError() == NONE);
-        studio.makeNew();
-        history.forgetAll();
-        for (int i = 0; i < SLOTS; i++) {
-            slotFilled[i] = false;
+        beginAnew();
+        int leftOut = 0;
+        text.readStart();
+        for (int i = 0; i < MAX_TEXT && text.hasMore(); i++) {
+            if (text.readCommand() && !doCommand(text.letter, text.numbers)) {
+                leftOut++;
+            }
         }
-        return doCommandsOfText();
+        return leftOut;
     }
 
     // ---- what there is
@@ -401,15 +404,12 @@ public final class DanceFloors {
 
     // ---- commands of texts, scripts and simulations
 
-    private int doCommandsOfText() {
-        int leftOut = 0;
-        text.readStart();
-        for (int i = 0; i < MAX_TEXT && text.hasMore(); i++) {
-            if (text.readCommand() && !doCommand(text.letter, text.numbers)) {
-                leftOut++;
-            }
+    private void beginAnew() {
+        studio.makeNew();
+        history.forgetAll();
+        for (int i = 0; i < SLOTS; i++) {
+            slotFilled[i] = false;
         }
-        return leftOut;
     }
 
     private boolean doCommand(char letter, int[] n) {
@@ -928,34 +928,32 @@ public final class DanceFloors {
         }
 
         private int holdLesson(Lesson lesson) {
-            int comers = countComers(lesson);
-            if (comers < settings[LEAST_DANCERS]) {
+            int comers = comersOf(lesson);
+            int used = Integer.bitCount(comers);
+            if (used < settings[LEAST_DANCERS]) {
                 notHeldCount++;
                 return 0;
             }
             for (int d = 0; d < dancerCount; d++) {
-                if (comes(d, lesson)) {
+                if ((comers >> d & 1) == 1) {
                     dancers[d].dance(lesson.level);
                 }
             }
             heldCount++;
             lesson.weeksHeld++;
-            lesson.uses += comers;
-            return comers;
+            lesson.uses += used;
+            return used;
         }
 
-        private int countComers(Lesson lesson) {
+        /** Those who come to a class, as a set. */
+        private int comersOf(Lesson lesson) {
             int comers = 0;
             for (int d = 0; d < dancerCount; d++) {
-                if (comes(d, lesson)) {
-                    comers++;
+                if (lesson.seatsDancer(d) && dancers[d].left > 0) {
+                    comers |= 1 << d;
                 }
             }
             return comers;
-        }
-
-        private boolean comes(int d, Lesson lesson) {
-            return lesson.seatsDancer(d) && dancers[d].left > 0;
         }
 
         int countSeats() {
