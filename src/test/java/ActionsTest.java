@@ -219,8 +219,8 @@ public final class ActionsTest {
     }
 
     private static void refusesSeatsInOrder() {
-        // Floor 0 has 1 place, floor 1 has 2; classes 0 and 1 are at one hour, class 2 is of level 3, class 3 of level 3
-        // at the hour of class 0, class 4 is on floor 0 at another hour.
+        // Floor 0 has 1 place, floor 1 has 2. Classes 0 and 1 are at one hour, class 2 is on floor 0 at the next one,
+        // class 3 is of level 3 at the hour of class 0, class 4 is on floor 0 at the last one.
         DanceFloors x = Studios.loaded("Sf100001f100002f100009t085t085t085dddc310000c311100c310001c332200c310105");
         x.enter(0, 0);
         Checks.due("has the seat in a full class", 1, () -> x.enter(0, 0));
@@ -231,7 +231,7 @@ public final class ActionsTest {
         Checks.due("a class not yet full", 0, () -> x.enter(2, 1));
         Checks.due("seats", 3, () -> x.about(5));
         Checks.due("refused", 4, () -> x.about(11));
-        Checks.due("the same hour on another day", 0, () -> x.enter(0, 4));
+        Checks.due("another hour of the same day", 0, () -> x.enter(0, 4));
         Checks.due("leave(0, 0)", 0, () -> x.leave(0, 0));
         Checks.due("a seat that is free again, but the hour is not", 3, () -> x.enter(2, 0));
     }

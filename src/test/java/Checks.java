@@ -30,11 +30,14 @@ final class Checks {
         }
     }
 
-    /** The call throws exactly this exception, and everything that can be looked at stays as it was. */
+    /**
+     * The call throws exactly this exception, and all counts stay as they were. (That nothing at all is changed,
+     * BoundsOfExceptionsTest shows; here so many looks would not fit into the calls that an object has.)
+     */
     static void dueThrow(DanceFloors x, String name, String exception, Call call) {
-        String before = Studios.look(x);
+        String before = Studios.counts(x);
         same(name, "throws." + exception, answerOf(call));
-        same(name + ": what there is behind it", before, Studios.look(x));
+        same(name + ": the counts behind it", before, Studios.counts(x));
     }
 
     static void dueIndex(DanceFloors x, String name, Call call) {

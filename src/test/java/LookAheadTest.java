@@ -25,13 +25,23 @@ public final class LookAheadTest {
         Checks.dueIndex(x, "why: floor -1", () -> x.why(3, 1, -1, 0, 0, 1));
         Checks.dueIndex(x, "why: teacher 2", () -> x.why(9, 9, 0, 2, 9, 9));
         Checks.dueIndex(x, "why: teacher -1", () -> x.why(3, 1, 0, -1, 0, 1));
+        tellsWhyOfWrongArguments();
+        tellsWhyWithTenClasses();
+    }
+
+    private static void tellsWhyOfWrongArguments() {
         int[][] wrong = {{-1, 1, 5, 2}, {4, 1, 5, 2}, {3, 0, 5, 2}, {3, 6, 5, 2},
             {3, 1, -1, 2}, {3, 1, 6, 2}, {3, 1, 5, -1}, {3, 1, 5, 6}};
         for (int[] w : wrong) {
+            DanceFloors x = Studios.small();
             Checks.dueArgument(x, "why" + java.util.Arrays.toString(w), () -> x.why(w[0], w[1], 0, 0, w[2], w[3]));
             Checks.dueArgument(x, "bestFloor" + java.util.Arrays.toString(w),
                     () -> x.bestFloor(w[0], w[1], 0, w[2], w[3]));
         }
+    }
+
+    private static void tellsWhyWithTenClasses() {
+        DanceFloors x = Studios.small();
         for (int hour = 0; hour < 6; hour++) {
             x.set(3, 1, 0, 0, 4, hour);
         }

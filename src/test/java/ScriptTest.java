@@ -13,9 +13,17 @@ public final class ScriptTest {
     }
 
     private static void script(DanceFloors x, int n, long script, int due) {
-        String before = Studios.look(x);
+        String before = Studios.counts(x);
         Checks.due("runScript(" + n + ", " + script + ")", due, () -> x.runScript(n, script));
-        Checks.same("what there is behind the script " + script, before, Studios.look(x));
+        Checks.same("the counts behind the script " + script, before, Studios.counts(x));
+    }
+
+    /** A script on danced(), and a look at all behind it. */
+    private static void script(int n, long script, int due) {
+        DanceFloors x = danced();
+        Checks.due("runScript(" + n + ", " + script + ")", due, () -> x.runScript(n, script));
+        Checks.same("what there is behind the script " + script, Studios.look(danced()), Studios.look(x));
+        Checks.due("undo(): the script " + script + " is no action", 2, x::undo);
     }
 
     /** Dancers 0 and 1 have a seat in class 0, and 8 uses left; 2 classes were held. */
@@ -28,68 +36,62 @@ public final class ScriptTest {
     }
 
     private static void runsSingleCommands() {
-        DanceFloors x = danced();
-        script(x, 1, 12000, NONE);
-        script(x, 1, 10000, 0);
-        script(x, 1, 13000, 0);
-        script(x, 1, 12200, 0);
-        script(x, 1, 21000, NONE);
-        script(x, 1, 22000, 0);
-        script(x, 1, 23000, 0);
-        script(x, 1, 20200, 0);
-        script(x, 1, 30001, NONE);
-        script(x, 1, 30009, NONE);
-        script(x, 1, 30000, 0);
-        script(x, 1, 42000, NONE);
-        script(x, 1, 43000, 0);
-        script(x, 1, 51000, NONE);
-        script(x, 1, 52000, 0);
-        script(x, 1, 60000, NONE);
-        script(x, 1, 60001, NONE);
-        script(x, 1, 60002, 0);
-        script(x, 1, 63000, 0);
-        script(x, 1, 70008, NONE);
-        script(x, 1, 70009, 0);
-        script(x, 1, 72010, NONE);
-        script(x, 1, 72011, 0);
-        script(x, 1, 73000, 0);
-        script(x, 1, 80002, NONE);
-        script(x, 1, 80003, 0);
-        script(x, 1, 82000, 0);
-        script(x, 1, 90002, NONE);
-        script(x, 1, 90003, 0);
+        script(1, 12000, NONE);
+        script(1, 10000, 0);
+        script(1, 13000, 0);
+        script(1, 12200, 0);
+        script(1, 21000, NONE);
+        script(1, 22000, 0);
+        script(1, 23000, 0);
+        script(1, 20200, 0);
+        script(1, 30001, NONE);
+        script(1, 30009, NONE);
+        script(1, 30000, 0);
+        script(1, 42000, NONE);
+        script(1, 43000, 0);
+        script(1, 51000, NONE);
+        script(1, 52000, 0);
+        script(1, 60000, NONE);
+        script(1, 60001, NONE);
+        script(1, 60002, 0);
+        script(1, 63000, 0);
+        script(1, 70008, NONE);
+        script(1, 70009, 0);
+        script(1, 72010, NONE);
+        script(1, 72011, 0);
+        script(1, 73000, 0);
+        script(1, 80002, NONE);
+        script(1, 80003, 0);
+        script(1, 82000, 0);
+        script(1, 90002, NONE);
+        script(1, 90003, 0);
     }
 
     private static void refusesWrongGroups() {
-        DanceFloors x = danced();
         long[] wrong = {0, 1, 9999, 12001, 12010, 21001, 21010, 30011, 30101, 31001, 42001, 42010, 42100,
             51001, 51010, 51100, 60010, 60100, 60011, 70100, 80100, 90100, 91000, 99999};
         for (long group : wrong) {
-            script(x, 1, group, 0);
+            script(1, group, 0);
         }
-        x.pass(2);
-        for (int i = 0; i < 7; i++) {
-            x.pass(2);
-        }
+        DanceFloors x = danced();
+        Studios.passes(x, 2, 8);
         x.pass(0);
         script(x, 1, 42000, 0);
         script(x, 1, 72090, NONE);
     }
 
     private static void runsInOrderOnACopy() {
-        DanceFloors x = danced();
-        script(x, 3, 21000_21000_12000L, 1);
-        script(x, 3, 21000_11000_80002L, NONE);
-        script(x, 3, 12000_30001_90003L, NONE);
-        script(x, 3, 12000_30001_90004L, 2);
-        script(x, 3, 30004_70004_70005L, 2);
-        script(x, 2, 51000_51000L, 1);
-        script(x, 2, 51000_50000L, NONE);
-        script(x, 2, 42000_72020L, NONE);
-        script(x, 2, 12000L, 0);
-        script(x, 3, 12000L, 0);
-        script(x, 3, 50000_90002_80001L, 2);
-        Checks.due("undo(): scripts are no actions", 2, x::undo);
+        script(3, 21000_21000_12000L, 1);
+        script(3, 21000_11000_80002L, NONE);
+        script(3, 12000_30001_90003L, NONE);
+        script(3, 12000_30001_90004L, 2);
+        script(3, 30004_70004_70005L, 2);
+        script(2, 51000_51000L, 1);
+        script(2, 51000_50000L, NONE);
+        script(2, 42000_72020L, NONE);
+        script(2, 12000L, 0);
+        script(3, 12000L, 0);
+        script(3, 50000_90002_80001L, 2);
     }
 
     private static void scriptThrows() {
@@ -114,7 +116,8 @@ public final class ScriptTest {
             }
         }
         for (int i = 0; i < 300; i++) {
-            simulates("Sf924030f540020f330025t155t155t155ddddddddp00p01p02p03p04p05p06p07c310000c321010c310102", i, 100);
+            simulates("Sf924030f540020f330025t155t155t155ddddddddp00p01p02p03p04p05p06p07"
+                    + "c310000c321010c310102", i, 100);
         }
         simulatesManySeats();
         simulates("S", Long.MIN_VALUE, 100);

@@ -133,7 +133,7 @@ public final class WeeksAndUndoTest {
 
     private static void undoTakesBackEachAction() {
         DanceFloors x = Studios.small();
-        Checks.dueState(x, "undo() of none", x::undo);
+        Checks.same("undo() of none", "throws.IllegalStateException", Checks.answerOf(x::undo));
         Checks.Call[] actions = {
             () -> x.floor(1, 0, 0, 1), () -> x.teacher(0, 1), () -> x.set(3, 1, 0, 0, 3, 3), () -> x.dancer(),
             () -> x.pass(0), () -> x.enter(0, 0), () -> x.enter(1, 0), () -> x.weeks(3), () -> x.leave(0, 0),
@@ -141,14 +141,15 @@ public final class WeeksAndUndoTest {
             () -> x.tune(0, 2)};
         String[] before = new String[actions.length];
         for (int i = 0; i < actions.length; i++) {
-            before[i] = Studios.look(x);
+            before[i] = Studios.counts(x);
             actions[i].run();
         }
         for (int i = actions.length - 1; i >= 0; i--) {
             Checks.due("undo() of action " + i, i, x::undo);
-            Checks.same("what there is before action " + i, before[i], Studios.look(x));
+            Checks.same("the counts before action " + i, before[i], Studios.counts(x));
         }
-        Checks.dueState(x, "undo() of none", x::undo);
+        Checks.same("undo() of none", "throws.IllegalStateException", Checks.answerOf(x::undo));
+        Checks.due("setting(1) behind all undo()", 12, () -> x.setting(1));
     }
 
     private static void undoRemembersFourteen() {
